@@ -8,7 +8,7 @@ final class Due {
     static void is(String call, long got, long want) {
         if (got != want) {
             wrong++;
-            System.out.println(call + " answered " + got + ", due is " + want);
+            System.out.println(call + " answered " + told(got) + ", due is " + told(want));
         }
     }
 
@@ -20,6 +20,10 @@ final class Due {
         } catch (ArithmeticException due) {
             return;
         }
+    }
+
+    private static String told(long answer) {
+        return answer == Call.THROWS ? "throws.ArithmeticException" : Long.toString(answer);
     }
 
     static void end() {

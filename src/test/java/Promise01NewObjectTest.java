@@ -3,6 +3,8 @@ public final class Promise01NewObjectTest {
         noParts();
         everythingAtItsBeginning();
         objectsShareNothing();
+        noPartOfAnyNumber();
+        timesBeginWithZero();
         Due.end();
     }
 
@@ -34,5 +36,20 @@ public final class Promise01NewObjectTest {
         Due.is("state(1) of another", y.state(1), -1);
         Due.is("reset(1) of another", y.reset(1), 0);
         Due.is("part of another", y.part(0, 1, 1L), 1);
+    }
+
+    private static void noPartOfAnyNumber() {
+        for (int part : new int[] {Integer.MIN_VALUE, -1, 0, 1, 2, 19, 20, 21, Integer.MAX_VALUE}) {
+            Run run = new Run("part " + part).due("state(%d) -1; edge(%d, 0, 1) -1; point(%d, 1, 0) -1", part, part, part);
+            run.due("deadline(%d, 1, 2, 0, 1) -1; tolerance(%d, 1) %d; part(0, 1, 1) 1", part, part, part == 0 ? 1 : -1);
+        }
+    }
+
+    private static void timesBeginWithZero() {
+        Run.of("cycle", "cycle(-1) -2; cycle(0) 0");
+        Run.of("outer", "outer(-1) -2; outer(0) 1");
+        Run.of("the outer watch's time", "outer(100) 1");
+        Run.of("the outer watch's time, too late", "outer(101) 0");
+        Run.of("the question's time", "answer(0, 10, 0) 1; answer(1, 9, 0) 1; answer(2, 12, 0) 1; answer(3, 3, 10) 1");
     }
 }

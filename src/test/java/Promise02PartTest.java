@@ -6,6 +6,9 @@ public final class Promise02PartTest {
         twentyAtMost();
         leastAndMostAreKept();
         spanIsKept();
+        ranges();
+        rangesWithoutRoom();
+        refusedOnesMakeNone();
         Due.end();
     }
 
@@ -87,5 +90,51 @@ public final class Promise02PartTest {
             Due.is("a cycle within the span", x.cycle(0L), 0);
         }
         Due.is("cycle 100 of a span of 100", x.cycle(0L), 1);
+    }
+
+    private static final int[] COUNTS = {Integer.MIN_VALUE, -1, 0, 1, 2, 999, 1000, 1001, Integer.MAX_VALUE};
+    private static final long[] SPANS = {Long.MIN_VALUE, -1L, 0L, 1L, 2L, 99L, 100L, 101L, 1L << 32, (1L << 32) + 1L, Long.MAX_VALUE};
+
+    private static boolean isInRange(int least, int most, long span) {
+        return least >= 0 && least <= 1000 && most >= least && most <= 1000 && span >= 0L && span <= 100L;
+    }
+
+    private static void ranges() {
+        for (int least : COUNTS) {
+            for (int most : COUNTS) {
+                for (long span : SPANS) {
+                    boolean allowed = isInRange(least, most, span);
+                    long due = !allowed ? -2 : span == 0L ? Call.THROWS : 1;
+                    Run run = new Run("a new object").due(Call.of("part", due, least, most, span));
+                    run.due("state(1) %d; part(0, 1, 1) %d", due == 1 ? 0 : -1, due == 1 ? 2 : 1);
+                }
+            }
+        }
+        for (int least = 0; least < 1000; least += 37) {
+            Run.of("MOST at LEAST, and one less").due("part(%d, %d, 1) -2; part(%d, %d, 1) 1", least, least - 1, least, least);
+        }
+    }
+
+    private static void rangesWithoutRoom() {
+        for (int least : COUNTS) {
+            Run run = new Run("20 parts");
+            for (int i = 1; i <= 20; i++) {
+                run.due("part(0, 1, 1) %d", i);
+            }
+            for (int most : COUNTS) {
+                for (long span : SPANS) {
+                    run.due(Call.of("part", isInRange(least, most, span) ? -4 : -2, least, most, span));
+                }
+            }
+            run.due("state(20) 0; state(21) -1");
+        }
+    }
+
+    private static void refusedOnesMakeNone() {
+        Run run = new Run("refused and thrown ones between");
+        for (int i = 1; i <= 20; i++) {
+            run.due("part(-1, 5, 1) -2; part(0, 1, 101) -2; part(0, 1, 0) throws; state(%d) -1; part(0, 1, 1) %d; state(%d) 0", i, i, i);
+        }
+        run.due("part(-1, 5, 1) -2; part(0, 1, 101) -2; part(0, 1, 0) -4; part(0, 1, 1) -4; cycle(0) 0; state(21) -1");
     }
 }

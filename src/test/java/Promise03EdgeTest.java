@@ -6,6 +6,8 @@ public final class Promise03EdgeTest {
         edgesAreOfOneMode();
         edgesHaveADirection();
         allPairs();
+        ranges();
+        refusedOnesMakeNone();
         Due.end();
     }
 
@@ -96,6 +98,30 @@ public final class Promise03EdgeTest {
                     Due.is("the same again", x.edge(1, from, to), 0);
                 }
             }
+        }
+    }
+
+    private static final int[] POINTS = {Integer.MIN_VALUE, -1, 0, 1, 2, 29, 30, 31, 32, 33, 64, Integer.MAX_VALUE};
+
+    private static void ranges() {
+        for (int part : new int[] {Integer.MIN_VALUE, -1, 0, 1, 2, 3, Integer.MAX_VALUE}) {
+            for (int from : POINTS) {
+                for (int to : POINTS) {
+                    boolean known = part == 1 || part == 2;
+                    boolean allowed = from >= 0 && from <= 30 && to >= 1 && to <= 30;
+                    int due = !known ? -1 : allowed ? 1 : -2;
+                    Run run = new Run("two parts").due("part(0, 1, 1) 1; part(0, 1, 1) 2");
+                    run.due(Call.of("edge", due, part, from, to)).due(Call.of("edge", due == 1 ? 0 : due, part, from, to));
+                }
+            }
+        }
+    }
+
+    private static void refusedOnesMakeNone() {
+        for (int to = 1; to <= 30; to++) {
+            Run run = new Run("refused ones, then the first point").due("part(0, 1, 1) 1; edge(1, -1, %d) -2; edge(1, 31, %d) -2", to, to);
+            run.due("edge(2, 0, %d) -1; edge(0, 0, %d) -1; edge(1, 0, 0) -2; edge(1, 0, 31) -2; edge(1, 0, %d) -2", to, to, to + 32);
+            run.due("edge(1, 0, %d) -2; point(1, %d, 0) 2; edge(1, 0, %d) 1", to - 32, to, to);
         }
     }
 }

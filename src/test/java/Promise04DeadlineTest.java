@@ -6,6 +6,9 @@ public final class Promise04DeadlineTest {
         deadlinesAreOfOneMode();
         sameTwiceIsTwo();
         longestLimits();
+        ranges();
+        rangesWithoutRoom();
+        refusedOnesMakeNone();
         Due.end();
     }
 
@@ -101,5 +104,59 @@ public final class Promise04DeadlineTest {
         x.point(1, 2, 100000L);
         x.point(1, 3, 199999L);
         Due.is("99999 of 100000", x.cycle(200000L), 1);
+    }
+
+    private static final int[] POINTS = {Integer.MIN_VALUE, -1, 0, 1, 30, 31, Integer.MAX_VALUE};
+    private static final long[] LIMITS = {Long.MIN_VALUE, -1L, 0L, 1L, 99999L, 100000L, 100001L, 1L << 32, Long.MAX_VALUE};
+
+    private static boolean isInRange(int from, int to, long least, long most) {
+        boolean points = from >= 1 && from <= 30 && to >= 1 && to <= 30;
+        return points && least >= 0L && least <= 100000L && most >= least && most <= 100000L;
+    }
+
+    private static void ranges() {
+        for (int from : POINTS) {
+            for (int to : POINTS) {
+                for (long least : LIMITS) {
+                    for (long most : LIMITS) {
+                        int due = isInRange(from, to, least, most) ? 1 : -2;
+                        Run run = new Run("one part").due("part(0, 1, 1) 1").due(Call.of("deadline", due, 1, from, to, least, most));
+                        run.due(Call.of("deadline", -1, 2, from, to, least, most)).due(Call.of("deadline", -1, 0, from, to, least, most));
+                        run.due("deadline(1, 1, 1, 0, 0) %d", due == 1 ? 2 : 1);
+                    }
+                }
+            }
+        }
+    }
+
+    private static void rangesWithoutRoom() {
+        for (int from : POINTS) {
+            for (int to : POINTS) {
+                Run run = new Run("ten deadlines").due("part(0, 1, 1) 1; part(0, 1, 1) 2");
+                for (int i = 1; i <= 10; i++) {
+                    run.due("deadline(1, 1, 2, 0, 1) %d", i);
+                }
+                for (long least : LIMITS) {
+                    for (long most : LIMITS) {
+                        run.due(Call.of("deadline", isInRange(from, to, least, most) ? -4 : -2, 1, from, to, least, most));
+                        run.due(Call.of("deadline", -1, 3, from, to, least, most));
+                    }
+                }
+                run.due("deadline(2, 1, 2, 0, 1) 1; reset(0) 1; deadline(1, 1, 2, 0, 1) -4; mode(3) 0; deadline(1, 1, 2, 0, 1) -4");
+            }
+        }
+    }
+
+    private static void refusedOnesMakeNone() {
+        String part = "part(0, 1000, 100) 1; tolerance(1, 9) 1; edge(1, 0, 2) 1; edge(1, 2, 3) 1; edge(1, 3, 2) 1;";
+        String refused = "deadline(1, 2, 3, 5, 4) -2; deadline(1, 2, 3, -1, 4) -2; deadline(1, 2, 3, 0, 100001) -2; deadline(2, 2, 3, 5, 9) -1;"
+                + "deadline(0, 2, 3, 5, 9) -1; deadline(1, 0, 3, 5, 9) -2; deadline(1, 2, 31, 5, 9) -2;";
+        Run.of("too soon for none", part, refused, "point(1, 2, 0) 0; point(1, 3, 0) 0; cycle(0) 0; deadline(1, 2, 3, 5, 9) 1");
+        Run.of("too late for none", part, refused, "point(1, 2, 0) 0; cycle(2^40) 0; deadline(1, 2, 3, 5, 9) 1");
+        Run full = Run.of("an eleventh makes none", part);
+        for (int i = 1; i <= 10; i++) {
+            full.due("deadline(1, 2, 3, 0, 9) %d", i);
+        }
+        full.due("deadline(1, 2, 3, 5, 9) -4; point(1, 2, 0) 0; point(1, 3, 0) 0; cycle(0) 0");
     }
 }

@@ -14,6 +14,7 @@ public final class Promise05PointTest {
         flawsShowInTheCycleOnly();
         aliveOnesAloneAreCounted();
         largeTimes();
+        ranges();
         Due.end();
     }
 
@@ -175,5 +176,22 @@ public final class Promise05PointTest {
         x.point(1, 2, LAST_TIME);
         x.point(1, 3, LAST_TIME);
         Due.is("none", x.cycle(LAST_TIME), 0);
+    }
+
+    private static void ranges() {
+        int[] points = {Integer.MIN_VALUE, -1, 0, 1, 2, 30, 31, 32, 33, Integer.MAX_VALUE};
+        long[] times = {Long.MIN_VALUE, -1L, 0L, 6L, 7L, 8L, LAST_TIME - 1L, LAST_TIME, LAST_TIME + 1L, Long.MAX_VALUE};
+        for (int part : new int[] {Integer.MIN_VALUE, -1, 0, 1, 2, 3, Integer.MAX_VALUE}) {
+            for (int p : points) {
+                for (long t : times) {
+                    boolean allowed = p >= 1 && p <= 30 && t >= 7L && t <= LAST_TIME;
+                    int due = part != 1 && part != 2 ? -1 : !allowed ? -2 : p == 2 ? 0 : 2;
+                    Run run = new Run("two parts at 7").due("part(0, 9, 1) 1; part(0, 9, 1) 2; edge(1, 0, 2) 1; edge(2, 0, 2) 1; cycle(7) 0");
+                    run.due(Call.of("point", due, part, p, t));
+                    run.due("state(1) %d; state(2) %d", part == 1 && due == 2 ? 2 : 0, part == 2 && due == 2 ? 2 : 0);
+                    run.due(Call.of("outer", due < 0 || t == 7L ? 1 : -2, 7));
+                }
+            }
+        }
     }
 }

@@ -13,6 +13,7 @@ public final class Promise06CycleTest {
         cyclesOneBehindTheOther();
         resetBeginsTheRowOfCyclesAgain();
         resetByACycle();
+        ranges();
         Due.end();
     }
 
@@ -191,5 +192,15 @@ public final class Promise06CycleTest {
         Due.is("AGE", x.reset(5), 0);
         Due.is("state(2)", x.state(2), 0);
         Due.is("the outer watch counts from then", x.outer(120L), 1);
+    }
+
+    private static void ranges() {
+        for (long told : new long[] {0L, 1L, 7L, (1L << 32) + 7L, (1L << 60) - 1L, 1L << 60}) {
+            for (long t : new long[] {Long.MIN_VALUE, -1L, 0L, 6L, 7L, told - 1L, told, told + 1L, 1L << 60, (1L << 60) + 1L, Long.MAX_VALUE}) {
+                boolean allowed = t >= told && t <= 1L << 60;
+                Run run = new Run("told " + told).due(Call.of("cycle", 0, told)).due(Call.of("cycle", allowed ? 0 : -2, t));
+                run.due("reset(5) %d", allowed ? 2 : 1).due(Call.of("cycle", allowed && t > told ? -2 : 0, told));
+            }
+        }
     }
 }

@@ -6,6 +6,8 @@ public final class Promise07ToleranceTest {
         ofAll();
         refusedOnesChangeNothing();
         keptByAReset();
+        ranges();
+        allValues();
         Due.end();
     }
 
@@ -77,5 +79,27 @@ public final class Promise07ToleranceTest {
         Due.is("the part's, one failure", x.cycle(0L), 1);
         Due.is("the part's, two", x.cycle(0L), 2);
         Due.is("that of all", x.cycle(0L), 3);
+    }
+
+    private static void ranges() {
+        for (int part : new int[] {Integer.MIN_VALUE, -1, 0, 1, 2, 3, Integer.MAX_VALUE}) {
+            for (int n : new int[] {Integer.MIN_VALUE, -1, 0, 1, 99, 100, 101, Integer.MAX_VALUE}) {
+                int due = part < 0 || part > 2 ? -1 : n < 0 || n > 100 ? -2 : 1;
+                Run.of("two parts", "part(0, 1, 1) 1; part(0, 1, 1) 2").due(Call.of("tolerance", due, part, n));
+            }
+        }
+    }
+
+    private static void allValues() {
+        for (int n = 0; n <= 100; n++) {
+            Run part = Run.of("a part's", "part(1, 1, 1) 1; cycle(0) 0 *2").due("tolerance(1, %d) 1; tolerance(1, 101) -2", n);
+            Run all = Run.of("the global one", "part(0, 1, 1) 1; point(1, 5, 0) 2").due("tolerance(0, %d) 1; tolerance(0, -1) -2", n);
+            for (int i = 1; i <= n; i++) {
+                part.due("cycle(0) 1");
+                all.due("cycle(0) 2");
+            }
+            part.due("cycle(0) 3");
+            all.due("cycle(0) 3");
+        }
     }
 }

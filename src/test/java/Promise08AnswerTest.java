@@ -9,6 +9,7 @@ public final class Promise08AnswerTest {
         errorsLess();
         eightErrors();
         timeCountsFromAReset();
+        ranges();
         Due.end();
     }
 
@@ -139,5 +140,16 @@ public final class Promise08AnswerTest {
         Due.is("9 behind", round(x, 209L), 0);
         x.reset(0);
         Due.is("50 behind", round(x, 259L), 1);
+    }
+
+    private static void ranges() {
+        for (int step : new int[] {Integer.MIN_VALUE, -1, 0, 1, 3, 4, Integer.MAX_VALUE}) {
+            for (long t : new long[] {Long.MIN_VALUE, -1L, 0L, 6L, 7L, 8L, 1L << 60, (1L << 60) + 1L, Long.MAX_VALUE}) {
+                boolean allowed = step >= 0 && step <= 3 && t >= 7L && t <= 1L << 60;
+                int due = !allowed ? -2 : step == 0 ? 1 : 0;
+                Run run = new Run("at 7").due("cycle(7) 0").due(Call.of("answer", due, step, 10, t));
+                run.due("reset(4) %d; reset(3) 0", due == 0 ? 1 : 0).due(Call.of("cycle", allowed && t > 7L ? -2 : 0, 7));
+            }
+        }
     }
 }

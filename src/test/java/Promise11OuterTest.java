@@ -5,6 +5,7 @@ public final class Promise11OuterTest {
         itsOwnTimeCounts();
         tooLateIsAReset();
         largeTimes();
+        ranges();
         Due.end();
     }
 
@@ -66,5 +67,15 @@ public final class Promise11OuterTest {
         Due.is("outer(2^60)", x.outer(1L << 60), 0);
         Due.is("outer(2^60) again", x.outer(1L << 60), 1);
         Due.is("resets", x.reset(1), 2);
+    }
+
+    private static void ranges() {
+        for (long told : new long[] {0L, 7L, (1L << 32) + 7L, (1L << 60) - 100L, (1L << 60) - 99L, 1L << 60}) {
+            for (long t : new long[] {-1L, 0L, told - 1L, told, told + 99L, told + 100L, told + 101L, 1L << 60, (1L << 60) + 1L, Long.MAX_VALUE}) {
+                int due = t < told || t > 1L << 60 ? -2 : t > told + 100L ? 0 : 1;
+                Run run = new Run("told " + told).due(Call.of("cycle", 0, told)).due("reset(0) 1").due(Call.of("outer", due, t));
+                run.due("reset(1) %d; reset(2) %d", due == 0 ? 2 : 1, due == 0 ? 3 : 4);
+            }
+        }
     }
 }

@@ -3,6 +3,7 @@ public final class Promise12StateTest {
         refusals();
         statesOfParts();
         askingChangesNothing();
+        ranges();
         Due.end();
     }
 
@@ -45,5 +46,17 @@ public final class Promise12StateTest {
         Due.is("state(1)", x.state(1), 2);
         Due.is("state(1) again", x.state(1), 2);
         Due.is("the cycle", x.cycle(0L), 3);
+    }
+
+    private static void ranges() {
+        for (int n = 0; n <= 20; n++) {
+            Run run = new Run(n + " parts");
+            for (int i = 1; i <= n; i++) {
+                run.due("part(0, 1, 1) %d", i);
+            }
+            for (int part : new int[] {Integer.MIN_VALUE, -1, 0, 1, n - 1, n, n + 1, 20, 21, Integer.MAX_VALUE}) {
+                run.due("state(%d) %d", part, part >= 1 && part <= n ? 0 : -1);
+            }
+        }
     }
 }
