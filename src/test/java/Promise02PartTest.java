@@ -133,7 +133,8 @@ public final class Promise02PartTest {
     private static void refusedOnesMakeNone() {
         Run run = new Run("refused and thrown ones between");
         for (int i = 1; i <= 20; i++) {
-            run.due("part(-1, 5, 1) -2; part(0, 1, 101) -2; part(0, 1, 0) throws; state(%d) -1; part(0, 1, 1) %d; state(%d) 0", i, i, i);
+            run.due("part(-1, 5, 1) -2; part(0, 1, 101) -2; part(0, 1, 0) throws; state(%d) -1; part(0, 1, 1) %d; "
+                    + "state(%d) 0", i, i, i);
         }
         run.due("part(-1, 5, 1) -2; part(0, 1, 101) -2; part(0, 1, 0) -4; part(0, 1, 1) -4; cycle(0) 0; state(21) -1");
     }

@@ -119,8 +119,10 @@ public final class Promise03EdgeTest {
 
     private static void refusedOnesMakeNone() {
         for (int to = 1; to <= 30; to++) {
-            Run run = new Run("refused ones, then the first point").due("part(0, 1, 1) 1; edge(1, -1, %d) -2; edge(1, 31, %d) -2", to, to);
-            run.due("edge(2, 0, %d) -1; edge(0, 0, %d) -1; edge(1, 0, 0) -2; edge(1, 0, 31) -2; edge(1, 0, %d) -2", to, to, to + 32);
+            Run run = new Run("refused ones, then the first point").due("part(0, 1, 1) 1; edge(1, -1, %d) -2; "
+                    + "edge(1, 31, %d) -2", to, to);
+            run.due("edge(2, 0, %d) -1; edge(0, 0, %d) -1; edge(1, 0, 0) -2; edge(1, 0, 31) -2; "
+                    + "edge(1, 0, %d) -2", to, to, to + 32);
             run.due("edge(1, 0, %d) -2; point(1, %d, 0) 2; edge(1, 0, %d) 1", to - 32, to, to);
         }
     }

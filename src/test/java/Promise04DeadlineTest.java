@@ -142,14 +142,16 @@ public final class Promise04DeadlineTest {
                         run.due(Call.of("deadline", -1, 3, from, to, least, most));
                     }
                 }
-                run.due("deadline(2, 1, 2, 0, 1) 1; reset(0) 1; deadline(1, 1, 2, 0, 1) -4; mode(3) 0; deadline(1, 1, 2, 0, 1) -4");
+                run.due("deadline(2, 1, 2, 0, 1) 1; reset(0) 1; deadline(1, 1, 2, 0, 1) -4; mode(3) 0; "
+                        + "deadline(1, 1, 2, 0, 1) -4");
             }
         }
     }
 
     private static void refusedOnesMakeNone() {
         String part = "part(0, 1000, 100) 1; tolerance(1, 9) 1; edge(1, 0, 2) 1; edge(1, 2, 3) 1; edge(1, 3, 2) 1;";
-        String refused = "deadline(1, 2, 3, 5, 4) -2; deadline(1, 2, 3, -1, 4) -2; deadline(1, 2, 3, 0, 100001) -2; deadline(2, 2, 3, 5, 9) -1;"
+        String refused = "deadline(1, 2, 3, 5, 4) -2; deadline(1, 2, 3, -1, 4) -2; deadline(1, 2, 3, 0, 100001) -2; "
+                + "deadline(2, 2, 3, 5, 9) -1;"
                 + "deadline(0, 2, 3, 5, 9) -1; deadline(1, 0, 3, 5, 9) -2; deadline(1, 2, 31, 5, 9) -2;";
         Run.of("too soon for none", part, refused, "point(1, 2, 0) 0; point(1, 3, 0) 0; cycle(0) 0; deadline(1, 2, 3, 5, 9) 1");
         Run.of("too late for none", part, refused, "point(1, 2, 0) 0; cycle(2^40) 0; deadline(1, 2, 3, 5, 9) 1");

@@ -186,7 +186,8 @@ public final class Promise05PointTest {
                 for (long t : times) {
                     boolean allowed = p >= 1 && p <= 30 && t >= 7L && t <= LAST_TIME;
                     int due = part != 1 && part != 2 ? -1 : !allowed ? -2 : p == 2 ? 0 : 2;
-                    Run run = new Run("two parts at 7").due("part(0, 9, 1) 1; part(0, 9, 1) 2; edge(1, 0, 2) 1; edge(2, 0, 2) 1; cycle(7) 0");
+                    Run run = new Run("two parts at 7").due("part(0, 9, 1) 1; part(0, 9, 1) 2; edge(1, 0, 2) 1; "
+                            + "edge(2, 0, 2) 1; cycle(7) 0");
                     run.due(Call.of("point", due, part, p, t));
                     run.due("state(1) %d; state(2) %d", part == 1 && due == 2 ? 2 : 0, part == 2 && due == 2 ? 2 : 0);
                     run.due(Call.of("outer", due < 0 || t == 7L ? 1 : -2, 7));

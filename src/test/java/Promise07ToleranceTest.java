@@ -93,7 +93,8 @@ public final class Promise07ToleranceTest {
     private static void allValues() {
         for (int n = 0; n <= 100; n++) {
             Run part = Run.of("a part's", "part(1, 1, 1) 1; cycle(0) 0 *2").due("tolerance(1, %d) 1; tolerance(1, 101) -2", n);
-            Run all = Run.of("the global one", "part(0, 1, 1) 1; point(1, 5, 0) 2").due("tolerance(0, %d) 1; tolerance(0, -1) -2", n);
+            Run all = Run.of("the global one", "part(0, 1, 1) 1; point(1, 5, 0) 2").due("tolerance(0, %d) 1; "
+                    + "tolerance(0, -1) -2", n);
             for (int i = 1; i <= n; i++) {
                 part.due("cycle(0) 1");
                 all.due("cycle(0) 2");

@@ -138,7 +138,8 @@ public final class Promise09ModeTest {
     }
 
     private static void refusedOnesChangeNothing() {
-        String part = "part(1, 1, 3) 1; tolerance(1, 9) 1; mode(2) 0; edge(1, 0, 1) 1; edge(1, 1, 2) 1; deadline(1, 1, 2, 5, 9) 1;";
+        String part = "part(1, 1, 3) 1; tolerance(1, 9) 1; mode(2) 0; edge(1, 0, 1) 1; edge(1, 1, 2) 1; "
+                + "deadline(1, 1, 2, 5, 9) 1;";
         String refused = "mode(-1) -2; mode(4) -2; mode(int.min) -2; mode(int.max) -2;";
         Run.of("the count", part, "point(1, 1, 0) 0;", refused, "cycle(0) 0 *3; mode(2) 2");
         Run.of("the deadline", part, "point(1, 1, 0) 0;", refused, "cycle(9) 0; cycle(10) 1");
@@ -149,7 +150,8 @@ public final class Promise09ModeTest {
     private static void allPairs() {
         for (int m = 0; m <= 3; m++) {
             for (int n = 0; n <= 3; n++) {
-                Run run = new Run("from " + m + " to " + n).due("part(0, 9, 1) 1; mode(%d) 0; edge(1, 0, 2) 1; edge(1, 2, 3) 1", m);
+                Run run = new Run("from " + m + " to " + n).due("part(0, 9, 1) 1; mode(%d) 0; edge(1, 0, 2) 1; "
+                        + "edge(1, 2, 3) 1", m);
                 run.due("point(1, 2, 0) 0; mode(%d) %d; mode(%d) %d; point(1, 3, 0) %d", n, m, m, n, m == n ? 0 : 2);
             }
         }

@@ -185,7 +185,8 @@ public final class Promise10ResetTest {
     private static void ranges() {
         int[] due = {-2, 1, 0, 0, 3, 1, 2, -2};
         for (int what = -1; what <= 6; what++) {
-            Run run = new Run("reset(" + what + ")").due("answer(0, 10, 10) 1; answer(1, 9, 10) 1; answer(2, 12, 10) 1; answer(3, 3, 10) 1");
+            Run run = new Run("reset(" + what + ")").due("answer(0, 10, 10) 1; answer(1, 9, 10) 1; "
+                    + "answer(2, 12, 10) 1; answer(3, 3, 10) 1");
             run.due("answer(1, 0, 10) 0; cycle(10) 0 *2; reset(%d) %d", what, due[what + 1]);
             run.due(what == 0 ? "reset(1) 1; reset(2) 4; reset(3) 0; reset(4) 0; reset(5) 0"
                     : "reset(1) 0; reset(2) 0; reset(3) 3; reset(4) 1; reset(5) 2");

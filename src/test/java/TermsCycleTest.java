@@ -1,7 +1,8 @@
 /** Terms: a CYCLE at a time. */
 public final class TermsCycleTest {
     private static final String ALIVE = "tolerance(1, 100) 1; edge(1, 0, 1) 1; edge(1, 1, 1) 1;";
-    private static final String EDGES = "part(0, 1000, 100) 1; tolerance(1, 100) 1; edge(1, 0, 2) 1; edge(1, 2, 2) 1; edge(1, 2, 3) 1;";
+    private static final String EDGES = "part(0, 1000, 100) 1; tolerance(1, 100) 1; edge(1, 0, 2) 1; edge(1, 2, 2) 1; "
+            + "edge(1, 2, 3) 1;";
 
     public static void main(String[] args) {
         lateDeadlines();
@@ -31,14 +32,17 @@ public final class TermsCycleTest {
         Run.of("the last time", EDGES, "deadline(1, 2, 3, 0, 100000) 1; point(1, 2, 0) 0; cycle(2^60) 1");
         Run.of("below its least it just runs on", EDGES, "deadline(1, 2, 3, 5, 9) 1; point(1, 2, 0) 0; cycle(1) 0; cycle(4) 0",
                 "point(1, 3, 5) 0; cycle(5) 0");
-        Run.of("a cycle does not begin it anew", EDGES, "deadline(1, 2, 3, 5, 9) 1; point(1, 2, 0) 0; cycle(6) 0; point(1, 3, 9) 0",
+        Run.of("a cycle does not begin it anew", EDGES, "deadline(1, 2, 3, 5, 9) 1; point(1, 2, 0) 0; cycle(6) 0; "
+                + "point(1, 3, 9) 0",
                 "cycle(9) 0; reset(0) 1; point(1, 2, 20) 0; cycle(26) 0; point(1, 3, 30) 0; cycle(30) 1");
     }
 
     private static void lateDeadlinesRunNoMore() {
         Run.of("a flaw once", EDGES, "deadline(1, 2, 3, 5, 9) 1; point(1, 2, 0) 0; cycle(10) 1; cycle(11) 0; cycle(500) 0");
-        Run.of("its end comes later", EDGES, "deadline(1, 2, 3, 5, 9) 1; point(1, 2, 0) 0; cycle(10) 1; point(1, 3, 11) 1; cycle(11) 0");
-        Run.of("it begins anew", EDGES, "deadline(1, 2, 3, 5, 9) 1; point(1, 2, 0) 0; cycle(10) 1; point(1, 2, 12) 1; cycle(21) 0",
+        Run.of("its end comes later", EDGES, "deadline(1, 2, 3, 5, 9) 1; point(1, 2, 0) 0; cycle(10) 1; "
+                + "point(1, 3, 11) 1; cycle(11) 0");
+        Run.of("it begins anew", EDGES, "deadline(1, 2, 3, 5, 9) 1; point(1, 2, 0) 0; cycle(10) 1; point(1, 2, 12) 1; "
+                + "cycle(21) 0",
                 "cycle(22) 1");
     }
 
@@ -80,8 +84,10 @@ public final class TermsCycleTest {
         Run.of("too few, a span of 2", "part(1, 1, 2) 1;", ALIVE, "cycle(0) 0 *3; cycle(0) 1");
         Run.of("too many, a span of 1", "part(0, 0, 1) 1;", ALIVE, "point(1, 1, 0) 0; cycle(0) 0; point(1, 1, 0) 0; cycle(0) 0",
                 "point(1, 1, 0) 0; cycle(0) 1");
-        Run.of("too many, a span of 2", "part(0, 0, 2) 1;", ALIVE, "point(1, 1, 0) 0 *3; cycle(0) 0 *4; point(1, 1, 0) 0; cycle(0) 0; cycle(0) 1");
-        Run.of("behind a reset again", "part(1, 1, 1) 1;", ALIVE, "cycle(0) 0 *2; cycle(0) 1; reset(0) 1; cycle(0) 0 *2; cycle(0) 1");
+        Run.of("too many, a span of 2", "part(0, 0, 2) 1;", ALIVE, "point(1, 1, 0) 0 *3; cycle(0) 0 *4; "
+                + "point(1, 1, 0) 0; cycle(0) 0; cycle(0) 1");
+        Run.of("behind a reset again", "part(1, 1, 1) 1;", ALIVE, "cycle(0) 0 *2; cycle(0) 1; reset(0) 1; "
+                + "cycle(0) 0 *2; cycle(0) 1");
         Run.of("a change of the mode makes none young", "part(1, 1, 1) 1;", ALIVE, "cycle(0) 0 *2; mode(1) 0; cycle(0) 1");
     }
 
@@ -92,32 +98,42 @@ public final class TermsCycleTest {
     }
 
     private static void countsBeginAgain() {
-        Run.of("behind good counts", "part(1, 1, 1) 1;", ALIVE, "cycle(0) 0 *2; point(1, 1, 0) 0; cycle(0) 0; point(1, 1, 0) 0; cycle(0) 0; cycle(0) 1");
-        Run.of("behind too many", "part(1, 1, 1) 1;", ALIVE, "cycle(0) 0 *2; point(1, 1, 0) 0 *2; cycle(0) 1; point(1, 1, 0) 1; cycle(0) 0");
-        Run.of("at AGE 1 and 2 too", "part(1, 1, 1) 1;", ALIVE, "point(1, 1, 0) 0; cycle(0) 0; point(1, 1, 0) 0; cycle(0) 0; point(1, 1, 0) 0; cycle(0) 0");
-        Run.of("not within the span", "part(2, 2, 3) 1;", ALIVE, "point(1, 1, 0) 0; cycle(0) 0; cycle(0) 0; point(1, 1, 0) 0; cycle(0) 0",
+        Run.of("behind good counts", "part(1, 1, 1) 1;", ALIVE, "cycle(0) 0 *2; point(1, 1, 0) 0; cycle(0) 0; "
+                + "point(1, 1, 0) 0; cycle(0) 0; cycle(0) 1");
+        Run.of("behind too many", "part(1, 1, 1) 1;", ALIVE, "cycle(0) 0 *2; point(1, 1, 0) 0 *2; cycle(0) 1; "
+                + "point(1, 1, 0) 1; cycle(0) 0");
+        Run.of("at AGE 1 and 2 too", "part(1, 1, 1) 1;", ALIVE, "point(1, 1, 0) 0; cycle(0) 0; point(1, 1, 0) 0; "
+                + "cycle(0) 0; point(1, 1, 0) 0; cycle(0) 0");
+        Run.of("not within the span", "part(2, 2, 3) 1;", ALIVE, "point(1, 1, 0) 0; cycle(0) 0; cycle(0) 0; "
+                + "point(1, 1, 0) 0; cycle(0) 0",
                 "point(1, 1, 0) 0; cycle(0) 0; point(1, 1, 0) 0; cycle(0) 0; cycle(0) 0; cycle(0) 0 *2; cycle(0) 1");
     }
 
     private static void flawsOfOneCycleAreOneFailure() {
-        Run.of("a late deadline and a count", "part(2, 2, 3) 1;", ALIVE, "deadline(1, 1, 2, 0, 9) 1; cycle(0) 0 *2; point(1, 1, 0) 0",
+        Run.of("a late deadline and a count", "part(2, 2, 3) 1;", ALIVE, "deadline(1, 1, 2, 0, 9) 1; cycle(0) 0 *2; "
+                + "point(1, 1, 0) 0",
                 "cycle(10) 1; cycle(10) 0");
-        Run.of("a point too soon and a count", "part(5, 5, 3) 1;", ALIVE, "deadline(1, 1, 1, 5, 9) 1; cycle(0) 0 *2; point(1, 1, 0) 0 *2",
+        Run.of("a point too soon and a count", "part(5, 5, 3) 1;", ALIVE, "deadline(1, 1, 1, 5, 9) 1; cycle(0) 0 *2; "
+                + "point(1, 1, 0) 0 *2",
                 "cycle(0) 1; cycle(0) 0");
         Run.of("a good count does not mend a flaw", "part(2, 2, 3) 1;", ALIVE, "deadline(1, 1, 1, 5, 9) 1; cycle(0) 0 *2",
                 "point(1, 1, 0) 0 *2; cycle(0) 1");
     }
 
     private static void flawsAreSinceTheCycleBefore() {
-        Run.of("a flaw is for one cycle", EDGES, "deadline(1, 2, 3, 5, 9) 1; point(1, 2, 0) 0; point(1, 3, 0) 0; cycle(0) 1; cycle(0) 0; cycle(0) 0");
+        Run.of("a flaw is for one cycle", EDGES, "deadline(1, 2, 3, 5, 9) 1; point(1, 2, 0) 0; point(1, 3, 0) 0; "
+                + "cycle(0) 1; cycle(0) 0; cycle(0) 0");
         Run.of("FAILED stays until the cycle", EDGES, "deadline(1, 2, 3, 5, 9) 1; point(1, 2, 0) 0; point(1, 3, 0) 0; state(1) 0",
                 "cycle(0) 1; state(1) 1; outer(0) 1; state(1) 1; cycle(0) 0; state(1) 0");
     }
 
     private static void expiredPartsAreLeftOut() {
-        Run.of("no way back", "part(1, 1, 1) 1; tolerance(0, 100) 1; cycle(0) 0 *2; cycle(0) 2; tolerance(1, 100) 1; cycle(0) 2 *5; state(1) 2");
-        Run.of("others go on", "part(1, 1, 1) 1; part(1, 1, 1) 2; tolerance(2, 1) 1; tolerance(0, 100) 1; edge(2, 0, 1) 1; edge(2, 1, 1) 1",
-                "cycle(0) 0 *2; cycle(0) 2; state(1) 2; state(2) 1; point(2, 1, 0) 1; cycle(0) 2; state(2) 0; cycle(0) 2; state(2) 1",
+        Run.of("no way back", "part(1, 1, 1) 1; tolerance(0, 100) 1; cycle(0) 0 *2; cycle(0) 2; tolerance(1, 100) 1; "
+                + "cycle(0) 2 *5; state(1) 2");
+        Run.of("others go on", "part(1, 1, 1) 1; part(1, 1, 1) 2; tolerance(2, 1) 1; tolerance(0, 100) 1; "
+                + "edge(2, 0, 1) 1; edge(2, 1, 1) 1",
+                "cycle(0) 0 *2; cycle(0) 2; state(1) 2; state(2) 1; point(2, 1, 0) 1; cycle(0) 2; state(2) 0; "
+                + "cycle(0) 2; state(2) 1",
                 "cycle(0) 2; state(2) 2");
     }
 
@@ -138,10 +154,12 @@ public final class TermsCycleTest {
         String refused = "cycle(4) -2; cycle(-1) -2; cycle(long.min) -2; cycle(2^60+1) -2; cycle(long.max) -2;";
         Run.of("AGE", "cycle(5) 0;", refused, "reset(5) 1");
         Run.of("counts", "part(1, 1, 1) 1;", ALIVE, "cycle(5) 0 *2; point(1, 1, 5) 0;", refused, "cycle(5) 0");
-        Run.of("flaws", EDGES, "deadline(1, 2, 3, 5, 9) 1; point(1, 2, 5) 0; point(1, 3, 5) 0;", refused, "state(1) 0; cycle(5) 1;",
+        Run.of("flaws", EDGES, "deadline(1, 2, 3, 5, 9) 1; point(1, 2, 5) 0; point(1, 3, 5) 0;", refused, "state(1) 0; "
+                + "cycle(5) 1;",
                 refused, "state(1) 1; cycle(5) 0");
         Run.of("deadlines", EDGES, "deadline(1, 2, 3, 5, 9) 1; point(1, 2, 5) 0;", refused, "cycle(14) 0; cycle(15) 1");
-        Run.of("the row of cycles", "part(0, 1, 1) 1; tolerance(0, 2) 1; point(1, 1, 5) 2; cycle(5) 2;", refused, "cycle(5) 2;", refused,
+        Run.of("the row of cycles", "part(0, 1, 1) 1; tolerance(0, 2) 1; point(1, 1, 5) 2; "
+                + "cycle(5) 2;", refused, "cycle(5) 2;", refused,
                 "cycle(5) 3");
     }
 }

@@ -21,8 +21,10 @@ public final class TermsGlobalStateTest {
         Run.of("all OK", PARTS, "cycle(0) 0");
         Run.of("one FAILED", PARTS, "point(1, 2, 0) 0; cycle(0) 1");
         Run.of("one EXPIRED", PARTS, "tolerance(0, 1) 1; point(2, 2, 0) 2; cycle(0) 2");
-        Run.of("one FAILED, one EXPIRED", PARTS, "tolerance(0, 1) 1; point(1, 2, 0) 0; point(2, 2, 0) 2; cycle(0) 2; state(1) 1; state(2) 2");
-        Run.of("the EXPIRED one first", "part(0, 9, 1) 1; part(1, 1, 3) 2; tolerance(2, 9) 1; tolerance(0, 9) 1; point(1, 1, 0) 2",
+        Run.of("one FAILED, one EXPIRED", PARTS, "tolerance(0, 1) 1; point(1, 2, 0) 0; point(2, 2, 0) 2; cycle(0) 2; "
+                + "state(1) 1; state(2) 2");
+        Run.of("the EXPIRED one first", "part(0, 9, 1) 1; part(1, 1, 3) 2; tolerance(2, 9) 1; tolerance(0, 9) 1; "
+                + "point(1, 1, 0) 2",
                 "cycle(0) 2 *3; state(1) 2; state(2) 1");
     }
 
@@ -42,9 +44,11 @@ public final class TermsGlobalStateTest {
     }
 
     private static void onlyCyclesCount() {
-        Run.of("no other call", PARTS, "tolerance(0, 1) 1; point(2, 2, 0) 2 *5; outer(0) 1; answer(0, 10, 0) 1; mode(1) 0; state(2) 2",
+        Run.of("no other call", PARTS, "tolerance(0, 1) 1; point(2, 2, 0) 2 *5; outer(0) 1; answer(0, 10, 0) 1; "
+                + "mode(1) 0; state(2) 2",
                 "reset(1) 0; cycle(0) 2; point(2, 2, 0) 2; mode(2) 1; reset(1) 0; cycle(0) 3");
-        Run.of("cycles before it was 2 do not count", PARTS, "tolerance(0, 1) 1; cycle(0) 0 *5; point(2, 2, 0) 2; cycle(0) 2; cycle(0) 3");
+        Run.of("cycles before it was 2 do not count", PARTS, "tolerance(0, 1) 1; cycle(0) 0 *5; point(2, 2, 0) 2; "
+                + "cycle(0) 2; cycle(0) 3");
     }
 
     private static void oneBehindTheOther() {
@@ -52,15 +56,20 @@ public final class TermsGlobalStateTest {
                 "point(2, 2, 0) 2; cycle(0) 2 *2; cycle(0) 3; reset(1) 2");
         Run.of("with another cycle between", PARTS, "tolerance(0, 2) 1; point(2, 2, 0) 2; cycle(0) 2 *2; reset(0) 1; cycle(0) 0",
                 "point(2, 2, 0) 2; cycle(0) 2 *2; cycle(0) 3; reset(1) 2");
-        Run.of("a change of the mode does not part them", PARTS, "tolerance(0, 1) 1; point(2, 2, 0) 2; cycle(0) 2; mode(1) 0; cycle(0) 3");
+        Run.of("a change of the mode does not part them", PARTS, "tolerance(0, 1) 1; point(2, 2, 0) 2; cycle(0) 2; "
+                + "mode(1) 0; cycle(0) 3");
     }
 
     private static void tolerancesToldLater() {
-        Run.of("a lower one", PARTS, "tolerance(0, 9) 1; point(2, 2, 0) 2; cycle(0) 2 *3; tolerance(0, 0) 1; reset(1) 0; state(2) 2; cycle(0) 3");
-        Run.of("a lower one, as many as there were", PARTS, "tolerance(0, 9) 1; point(2, 2, 0) 2; cycle(0) 2 *3; tolerance(0, 4) 1",
+        Run.of("a lower one", PARTS, "tolerance(0, 9) 1; point(2, 2, 0) 2; cycle(0) 2 *3; tolerance(0, 0) 1; "
+                + "reset(1) 0; state(2) 2; cycle(0) 3");
+        Run.of("a lower one, as many as there were", PARTS, "tolerance(0, 9) 1; point(2, 2, 0) 2; cycle(0) 2 *3; "
+                + "tolerance(0, 4) 1",
                 "cycle(0) 2; cycle(0) 3");
-        Run.of("a higher one", PARTS, "tolerance(0, 1) 1; point(2, 2, 0) 2; cycle(0) 2; tolerance(0, 3) 1; cycle(0) 2 *2; cycle(0) 3");
-        Run.of("refused ones", PARTS, "tolerance(0, 1) 1; tolerance(0, 101) -2; tolerance(0, -1) -2; tolerance(-1, 9) -1; tolerance(3, 9) -1",
+        Run.of("a higher one", PARTS, "tolerance(0, 1) 1; point(2, 2, 0) 2; cycle(0) 2; tolerance(0, 3) 1; "
+                + "cycle(0) 2 *2; cycle(0) 3");
+        Run.of("refused ones", PARTS, "tolerance(0, 1) 1; tolerance(0, 101) -2; tolerance(0, -1) -2; "
+                + "tolerance(-1, 9) -1; tolerance(3, 9) -1",
                 "point(2, 2, 0) 2; cycle(0) 2; cycle(0) 3");
         Run.of("a part's is not the global one", PARTS, "tolerance(2, 9) 1; tolerance(1, 9) 1; point(2, 2, 0) 2; cycle(0) 3");
         Run.of("the global one is not a part's", "part(1, 1, 1) 1; tolerance(0, 9) 1; cycle(0) 0 *2; cycle(0) 2; state(1) 2");

@@ -34,23 +34,29 @@ public final class TermsOuterTest {
         for (long t : new long[] {0, 99, 100, 101}) {
             int due = t <= 100 ? 1 : 0;
             new Run(t + " behind RESET 1").due("part(0, 9, 1) 1; point(1, 1, 500) 2; cycle(500) 3; outer(%d) %d", 500 + t, due);
-            new Run(t + " behind RESET 2").due("answer(3, 3, 400) 0 *7; answer(3, 3, 500) 0; reset(2) 2; outer(%d) %d", 500 + t, due);
+            new Run(t + " behind RESET 2").due("answer(3, 3, 400) 0 *7; answer(3, 3, 500) 0; reset(2) 2; "
+                    + "outer(%d) %d", 500 + t, due);
             new Run(t + " behind RESET 3").due("outer(500) 0; outer(%d) %d", 500 + t, due);
             new Run(t + " behind RESET 4").due("cycle(500) 0; reset(0) 1; outer(%d) %d", 500 + t, due);
         }
     }
 
     private static void otherCallsTimesDoNotCount() {
-        String others = "part(0, 9, 1) 1; edge(1, 0, 2) 1; point(1, 2, 90) 0; cycle(90) 0; answer(0, 10, 90) 1; mode(1) 0; answer(0, 0, 90) 0;";
+        String others = "part(0, 9, 1) 1; edge(1, 0, 2) 1; point(1, 2, 90) 0; cycle(90) 0; answer(0, 10, 90) 1; "
+                + "mode(1) 0; answer(0, 0, 90) 0;";
         Run.of("100 behind the beginning", others, "outer(100) 1");
         Run.of("101 behind the beginning", others, "outer(101) 0");
-        Run.of("only the outer call looks", others, "cycle(5000) 0; answer(0, 10, 5000) 1; reset(1) 0; outer(5000) 0; reset(1) 1");
+        Run.of("only the outer call looks", others, "cycle(5000) 0; answer(0, 10, 5000) 1; reset(1) 0; outer(5000) 0; "
+                + "reset(1) 1");
     }
 
     private static void tooLateIsAReset() {
-        new Run("one behind the other").due("outer(101) 0; outer(202) 0; reset(1) 2; outer(302) 1; outer(403) 0; reset(1) 3; reset(2) 3");
-        new Run("all begins anew").due("part(0, 9, 1) 1; part(0, 9, 1) 2; mode(2) 0; cycle(0) 0; answer(3, 3, 0) 0; point(2, 1, 0) 2"
-                + "; outer(101) 0; state(1) 0; state(2) 0; mode(0) 0; reset(5) 0; reset(4) 0; reset(3) 0; reset(2) 3; reset(1) 1");
+        new Run("one behind the other").due("outer(101) 0; outer(202) 0; reset(1) 2; outer(302) 1; outer(403) 0; "
+                + "reset(1) 3; reset(2) 3");
+        new Run("all begins anew").due("part(0, 9, 1) 1; part(0, 9, 1) 2; mode(2) 0; cycle(0) 0; answer(3, 3, 0) 0; "
+                + "point(2, 1, 0) 2"
+                + "; outer(101) 0; state(1) 0; state(2) 0; mode(0) 0; reset(5) 0; reset(4) 0; reset(3) 0; reset(2) 3; "
+                + "reset(1) 1");
     }
 
     private static void refusedOnesChangeNothing() {
@@ -58,6 +64,7 @@ public final class TermsOuterTest {
         Run.of("its time, 100 behind", "outer(50) 1;", refused, "outer(150) 1");
         Run.of("its time, 101 behind", "outer(50) 1;", refused, "outer(151) 0");
         Run.of("told times", "outer(50) 1;", refused, "cycle(49) -2; cycle(50) 0");
-        Run.of("too late, but refused", "cycle(300) 0; outer(299) -2; outer(2^60+1) -2; reset(1) 0; reset(5) 1; outer(300) 0; reset(1) 1");
+        Run.of("too late, but refused", "cycle(300) 0; outer(299) -2; outer(2^60+1) -2; reset(1) 0; reset(5) 1; "
+                + "outer(300) 0; reset(1) 1");
     }
 }

@@ -1,7 +1,8 @@
 /** Terms: a POINT of a PART at a time. */
 public final class TermsPointTest {
     private static final String PART = "part(0, 1000, 100) 1; tolerance(1, 100) 1;";
-    private static final String EDGES = PART + "edge(1, 0, 2) 1; edge(1, 2, 2) 1; edge(1, 2, 3) 1; edge(1, 3, 2) 1; edge(1, 3, 3) 1;";
+    private static final String EDGES = PART + "edge(1, 0, 2) 1; edge(1, 2, 2) 1; edge(1, 2, 3) 1; edge(1, 3, 2) 1; "
+            + "edge(1, 3, 3) 1;";
 
     public static void main(String[] args) {
         edgesFromTheBeginning();
@@ -43,7 +44,8 @@ public final class TermsPointTest {
             }
         }
         Run.of("a pair has a direction", PART, "edge(1, 0, 3) 1; edge(1, 2, 3) 1; point(1, 3, 0) 0; point(1, 2, 0) 2");
-        Run.of("the one before, not one of before", EDGES, "edge(1, 2, 4) 1; point(1, 2, 0) 0; point(1, 3, 0) 0; point(1, 4, 0) 2");
+        Run.of("the one before, not one of before", EDGES, "edge(1, 2, 4) 1; point(1, 2, 0) 0; point(1, 3, 0) 0; "
+                + "point(1, 4, 0) 2");
         Run.of("an edge told in between", EDGES, "point(1, 2, 0) 0; edge(1, 2, 9) 1; point(1, 9, 0) 0");
     }
 
@@ -111,7 +113,8 @@ public final class TermsPointTest {
     private static void deadlinesEndBeforeTheyBegin() {
         Run.of("from a point to itself", EDGES, "deadline(1, 2, 2, 5, 9) 1; point(1, 2, 0) 0; cycle(0) 0",
                 "point(1, 2, 5) 0; cycle(5) 0; point(1, 2, 14) 0; cycle(14) 0; point(1, 2, 18) 0; cycle(18) 1",
-                "point(1, 2, 23) 1; cycle(23) 0; cycle(32) 0; cycle(33) 1; point(1, 2, 60) 1; cycle(60) 0; point(1, 2, 61) 0; cycle(61) 1");
+                "point(1, 2, 23) 1; cycle(23) 0; cycle(32) 0; cycle(33) 1; point(1, 2, 60) 1; cycle(60) 0; "
+                + "point(1, 2, 61) 0; cycle(61) 1");
         Run.of("from a point to itself at one time", EDGES, "deadline(1, 2, 2, 0, 0) 1; point(1, 2, 5) 0; point(1, 2, 5) 0",
                 "cycle(5) 0; point(1, 2, 6) 0; cycle(6) 1");
     }
@@ -129,7 +132,8 @@ public final class TermsPointTest {
             run.due("deadline(1, 2, 3, 0, %d) %d", 10 + i, i);
         }
         run.due("point(1, 2, 0) 0; point(1, 3, 11) 0; cycle(11) 0; point(1, 2, 20) 0; point(1, 3, 32) 0; cycle(32) 1");
-        Run.of("the tenth alone is broken", EDGES, "deadline(1, 9, 9, 0, 0) 1; deadline(1, 9, 9, 0, 0) 2; deadline(1, 9, 9, 0, 0) 3",
+        Run.of("the tenth alone is broken", EDGES, "deadline(1, 9, 9, 0, 0) 1; deadline(1, 9, 9, 0, 0) 2; "
+                + "deadline(1, 9, 9, 0, 0) 3",
                 "deadline(1, 9, 9, 0, 0) 4; deadline(1, 9, 9, 0, 0) 5; deadline(1, 9, 9, 0, 0) 6; deadline(1, 9, 9, 0, 0) 7",
                 "deadline(1, 9, 9, 0, 0) 8; deadline(1, 9, 9, 0, 0) 9; deadline(1, 2, 3, 5, 9) 10",
                 "point(1, 2, 0) 0; point(1, 3, 4) 0; cycle(4) 1");
@@ -151,7 +155,8 @@ public final class TermsPointTest {
     private static void aliveOnesAreCounted() {
         for (int n : new int[] {0, 1, 2, 3, 399, 400, 401}) {
             int due = n < 2 || n > 400 ? 1 : 0;
-            Run run = Run.of(n + " alive ones of 2 to 400", "part(2, 400, 3) 1; tolerance(1, 1) 1; edge(1, 0, 1) 1; edge(1, 1, 1) 1");
+            Run run = Run.of(n + " alive ones of 2 to 400", "part(2, 400, 3) 1; tolerance(1, 1) 1; edge(1, 0, 1) 1; "
+                    + "edge(1, 1, 1) 1");
             for (int i = 0; i < n; i++) {
                 run.due("point(1, 1, 0) 0");
             }

@@ -89,7 +89,8 @@ public final class TermsQuestionTest {
     }
 
     private static void steps() {
-        new Run("no such step").due("answer(-1, 10, 0) -2; answer(4, 10, 0) -2; answer(int.min, 10, 0) -2; answer(int.max, 10, 0) -2"
+        new Run("no such step").due("answer(-1, 10, 0) -2; answer(4, 10, 0) -2; answer(int.min, 10, 0) -2; "
+                + "answer(int.max, 10, 0) -2"
                 + "; reset(4) 0; answer(0, 10, 0) 1; answer(4, 9, 0) -2; answer(-1, 9, 0) -2; answer(1, 9, 0) 1");
     }
 
@@ -129,8 +130,10 @@ public final class TermsQuestionTest {
     private static void otherStepsHaveNoTime() {
         new Run("late steps").due("answer(0, 10, 51) 1; answer(1, 9, 200) 1; answer(2, 12, 2^60) 1; reset(4) 0");
         new Run("early steps").due("answer(0, 10, 0) 1; answer(1, 9, 0) 1; answer(2, 12, 0) 1; answer(3, 3, 10) 1");
-        new Run("steps do not begin the time").due("answer(0, 10, 45) 1; answer(1, 9, 45) 1; answer(2, 12, 45) 1; answer(3, 3, 51) 0");
-        new Run("steps do not begin the time, early").due("answer(0, 10, 5) 1; answer(1, 9, 6) 1; answer(2, 12, 9) 1; answer(3, 3, 10) 1");
+        new Run("steps do not begin the time").due("answer(0, 10, 45) 1; answer(1, 9, 45) 1; answer(2, 12, 45) 1; "
+                + "answer(3, 3, 51) 0");
+        new Run("steps do not begin the time, early").due("answer(0, 10, 5) 1; answer(1, 9, 6) 1; answer(2, 12, 9) 1; "
+                + "answer(3, 3, 10) 1");
     }
 
     private static void otherCallsTimesDoNotCount() {
@@ -142,7 +145,8 @@ public final class TermsQuestionTest {
     private static void errorsMoreAndLess() {
         new Run("none to take off").due("reset(4) 0");
         round(new Run("0 stays 0"), 0, 10L, 1).due("reset(4) 0; answer(1, 0, 10) 0; reset(4) 1");
-        round(new Run("1 becomes 0").due("answer(3, 3, 0) 0"), 0, 10L, 1).due("reset(4) 0; answer(3, 3, 10) 0 *7; reset(1) 0; reset(4) 7");
+        round(new Run("1 becomes 0").due("answer(3, 3, 0) 0"), 0, 10L, 1).due("reset(4) 0; answer(3, 3, 10) 0 *7; "
+                + "reset(1) 0; reset(4) 7");
         Run run = new Run("7 become 0").due("answer(3, 3, 0) 0 *7; reset(4) 7");
         for (int n = 0; n < 8; n++) {
             threeSteps(run, n, 10L * n + 10L).due("reset(4) %d", Math.max(7 - n, 0));
@@ -152,13 +156,16 @@ public final class TermsQuestionTest {
 
     private static void eightErrors() {
         new Run("seven").due("answer(3, 3, 0) 0 *7; reset(4) 7; reset(1) 0; reset(2) 0");
-        new Run("eight").due("answer(3, 3, 0) 0 *8; reset(4) 0; reset(1) 1; reset(2) 2; answer(3, 3, 0) 0; reset(4) 1; reset(1) 1");
-        new Run("sixteen").due("answer(3, 3, 0) 0 *15; reset(1) 1; reset(4) 7; answer(3, 3, 0) 0; reset(1) 2; reset(4) 0; reset(2) 2");
+        new Run("eight").due("answer(3, 3, 0) 0 *8; reset(4) 0; reset(1) 1; reset(2) 2; answer(3, 3, 0) 0; reset(4) 1; "
+                + "reset(1) 1");
+        new Run("sixteen").due("answer(3, 3, 0) 0 *15; reset(1) 1; reset(4) 7; answer(3, 3, 0) 0; reset(1) 2; "
+                + "reset(4) 0; reset(2) 2");
         Run less = round(new Run("seven, one less, one more").due("answer(3, 3, 0) 0 *7"), 0, 10L, 1);
         less.due("reset(4) 6; answer(3, 3, 10) 0; reset(4) 7; reset(1) 0; answer(3, 3, 10) 0; reset(4) 0; reset(1) 1");
         round(new Run("the eighth is too early").due("answer(3, 3, 0) 0 *7"), 0, 9L, 0).due("reset(1) 1; reset(2) 2; reset(4) 0");
         round(new Run("the eighth is too late").due("answer(3, 3, 0) 0 *7"), 0, 51L, 0).due("reset(1) 1; reset(2) 2; reset(4) 0");
-        new Run("the eighth is not right").due("answer(0, 0, 0) 0 *7; answer(0, 10, 0) 1; answer(1, 8, 0) 0; reset(1) 1; reset(2) 2");
+        new Run("the eighth is not right").due("answer(0, 0, 0) 0 *7; answer(0, 10, 0) 1; answer(1, 8, 0) 0; "
+                + "reset(1) 1; reset(2) 2");
     }
 
     private static void aWrongOneChangesNoNumber() {
@@ -170,10 +177,13 @@ public final class TermsQuestionTest {
     }
 
     private static void refusedOnesChangeNothing() {
-        String refused = "answer(3, 3, 9) -2; answer(0, 0, -1) -2; answer(4, 0, 10) -2; answer(-1, 0, 10) -2; answer(1, 9, 2^60+1) -2;";
+        String refused = "answer(3, 3, 9) -2; answer(0, 0, -1) -2; answer(4, 0, 10) -2; answer(-1, 0, 10) -2; "
+                + "answer(1, 9, 2^60+1) -2;";
         Run.of("steps", "cycle(10) 0; answer(0, 10, 10) 1;", refused, "answer(1, 9, 10) 1;", refused, "answer(2, 12, 10) 1;", refused,
                 "answer(3, 3, 10) 1; reset(3) 3; reset(4) 0;", refused, "reset(3) 3; reset(4) 0");
-        Run.of("errors", "cycle(10) 0; answer(3, 3, 10) 0 *7;", refused, "reset(4) 7; reset(1) 0; answer(3, 3, 10) 0; reset(1) 1");
-        round(Run.of("the time", "answer(1, 0, 20) 0; answer(1, 0, 19) -2; answer(4, 0, 25) -2; answer(0, 0, 2^60+1) -2"), 0, 30L, 1);
+        Run.of("errors", "cycle(10) 0; answer(3, 3, 10) 0 *7;", refused, "reset(4) 7; reset(1) 0; answer(3, 3, 10) 0; "
+                + "reset(1) 1");
+        round(Run.of("the time", "answer(1, 0, 20) 0; answer(1, 0, 19) -2; answer(4, 0, 25) -2; "
+                + "answer(0, 0, 2^60+1) -2"), 0, 30L, 1);
     }
 }
