@@ -43,6 +43,23 @@ public final class FaceTest {
         Due.is("constructor", made[0].toString().equals("public WatchRows2()") ? 1 : 0, 1);
         int kind = WatchRows2.class.getModifiers();
         Due.is("public final", Modifier.isPublic(kind) && Modifier.isFinal(kind) ? 1 : 0, 1);
+        staticFieldsAreFinal(WatchRows2.class);
+        for (Class<?> inside : WatchRows2.class.getDeclaredClasses()) {
+            int seenBy = inside.getModifiers();
+            Due.is("a static class " + inside, Modifier.isStatic(seenBy) ? 1 : 0, 1);
+            Due.is("seen by others: " + inside, Modifier.isPublic(seenBy) || Modifier.isProtected(seenBy) ? 1 : 0, 0);
+            staticFieldsAreFinal(inside);
+        }
         Due.end();
+    }
+
+    /** Objects share nothing that a call could change. */
+    private static void staticFieldsAreFinal(Class<?> type) {
+        for (Field f : type.getDeclaredFields()) {
+            if (Modifier.isStatic(f.getModifiers())) {
+                boolean constant = Modifier.isFinal(f.getModifiers()) && f.getType().isPrimitive();
+                Due.is("a constant " + f, constant ? 1 : 0, 1);
+            }
+        }
     }
 }

@@ -28,6 +28,7 @@ public final class TermsResetTest {
             deadlinesStay(reason);
             tolerancesStay(reason);
             timesStay(reason);
+            expiredCyclesBeginAnew(reason);
         }
         reasonsOneBehindTheOther();
         askingIsNoReset();
@@ -140,6 +141,12 @@ public final class TermsResetTest {
     private static void timesStay(int reason) {
         around(reason, "told times", "", "cycle(199) -2; outer(199) -2; answer(0, 10, 199) -2; point(1, 1, 199) -2; "
                 + "cycle(200) 0");
+    }
+
+    /** The row of cycles for the global tolerance is not among what a RESET keeps. */
+    private static void expiredCyclesBeginAnew(int reason) {
+        around(reason, "the row of cycles", "tolerance(0, 2) 1; point(1, 9, 0) 2; cycle(0) 2 *2", "point(2, 29, 200) 2; "
+                + "cycle(200) 2 *2; cycle(200) 3; reset(1) 2; reset(2) 1");
     }
 
     private static void reasonsOneBehindTheOther() {
