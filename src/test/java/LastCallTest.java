@@ -1,4 +1,4 @@
-/** An object is used for at most 512 calls: each promise still holds in the last of them. */
+/** An object is used for at most 512 calls: promises 2 to 12 still hold in the last of them. */
 public final class LastCallTest {
     private static final int MOST_CALLS = 512;
     private static final long[][] RIGHT = {{10, 9, 12, 3}, {5, 8, 15, 2}, {2, 1, 4, 11}, {13, 0, 7, 10}};
